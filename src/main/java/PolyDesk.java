@@ -484,7 +484,7 @@ public final class PolyDesk {
          * merged, so like terms meet without room for every pair of terms.
          */
         private boolean merge(Poly target, Poly shorter, Poly longer) {
-            for (int i = 0; i < met.length; i++) {
+            for (int i = 0; i < shorter.length; i++) {
                 met[i] = 0;
             }
             begun = 1;

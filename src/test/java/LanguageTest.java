@@ -8,7 +8,6 @@ import java.nio.file.Path;
 import java.util.Arrays;
 import java.util.Set;
 import java.util.TreeSet;
-import java.util.regex.Matcher;
 import java.util.regex.Pattern;
 
 /** The public face of the document, and the rules of LANGUAGE.md that can be seen without running. */
@@ -89,12 +88,12 @@ public final class LanguageTest {
     private static void words() throws IOException {
         String source = Files.readString(SOURCE);
         String code = source.replaceAll("(?s)/\\*.*?\\*/", " ").replaceAll("//[^\n]*", " ");
-        String[] banned = {"throw", "throws", "try", "catch", "synchronized", "assert", "package", "import",
-            "equals", "hashCode", "toString", "System", "Thread", "Object", "->", "::", "\\w+Exact"};
+        String[] banned = {"throw", "throws", "try", "catch", "synchronized", "assert", "package",
+            "import (?!java\\.util\\.(ArrayList|List|Arrays|Iterator);)", "System\\.(?!arraycopy\\b)", "Thread",
+            "hashCode", "->", "::", "\\w+Exact"};
         for (String word : banned) {
-            String edge = word.matches("\\W+") ? "" : "\\b";
-            Matcher matcher = Pattern.compile(edge + word + edge).matcher(code);
-            hold(!matcher.find(), "the source does without: " + word);
+            String whole = word.matches("[a-zA-Z]+") ? "\\b" + word + "\\b" : word;
+            hold(!Pattern.compile(whole).matcher(code).find(), "the source does without: " + word);
         }
         hold(source.chars().allMatch(c -> c < 128), "plain characters");
     }
