@@ -25,7 +25,7 @@ public final class ModelTest {
     private ModelTest(int run) {
         this.run = run;
         this.seed = run * 1000003L + 17L;
-        this.registers = 3 + below(14);
+        this.registers = isNearLimits() ? 7 + below(4) : 3 + below(14);
         this.symbols = 1 + below(16);
     }
 
@@ -66,7 +66,38 @@ public final class ModelTest {
         return kind == 0 ? EDGES[below(EDGES.length)] : kind == 1 ? below(20000) - 10000 : below(9) - 4;
     }
 
+    private boolean isNearLimits() {
+        return run % 3 == 0;
+    }
+
+    /** Polys next to the document's limits, so that the calls behind them often go beyond these. */
+    private void approachLimits() {
+        both(0, 0, 99999999 - below(3));
+        for (int s = 0; s < 4; s++) {
+            both(1, 1, s);
+            both(2, 2, 2, 1);
+        }
+        both(0, 3, 1);
+        for (int n = 0; n < 5; n++) {
+            both(4, 3, 3, 2);
+        }
+        for (int s = 6 + below(3); s > 3; s--) {
+            both(1, 1, s);
+            both(2, 3, 3, 1);
+        }
+        both(1, 4, below(symbols));
+        both(0, 5, 1);
+        for (int n = 7 + below(3); n > 0; n--) {
+            both(4, 5, 5, 4);
+        }
+        both(10, 3);
+        both(10, 5);
+    }
+
     private void go() {
+        if (isNearLimits()) {
+            approachLimits();
+        }
         for (int n = 0; n < WORK_CALLS && wrong < 20; n++) {
             int die = below(100);
             if (die < 3) {

@@ -1,7 +1,7 @@
 /** Each promise of the document by hand: ordinary inputs, the edges it names, wrong inputs. */
 public final class PromisesTest {
-    private static final int MOST = 99999999;
-    private static final int[] NO_REGISTER = {-1, 16, -2, 17, Integer.MIN_VALUE, Integer.MAX_VALUE};
+    private static final int MOST = Polys.MOST;
+    private static final int[] NO_REGISTER = Polys.NO_REGISTER;
 
     private static int wrong = 0;
 
@@ -42,43 +42,6 @@ public final class PromisesTest {
         System.out.println(wrong == 0 ? "all answers are as due" : wrong + " answers are not as due");
         if (wrong != 0) {
             System.exit(1);
-        }
-    }
-
-    /** Register r becomes coefficient times the symbols, each to the power 1. */
-    private static void monomial(PolyDesk x, int r, int spare, int coefficient, int... symbols) {
-        x.constant(r, coefficient);
-        for (int s : symbols) {
-            x.symbol(spare, s);
-            x.times(r, r, spare);
-        }
-    }
-
-    /** Register r becomes more by coefficient times the symbols; spoils registers 14 and 15. */
-    private static void more(PolyDesk x, int r, int coefficient, int... symbols) {
-        monomial(x, 14, 15, coefficient, symbols);
-        x.plus(r, r, 14);
-    }
-
-    /** Register r becomes a poly of 56 terms; spoils registers 14 and 15. */
-    private static void fiftySix(PolyDesk x, int r) {
-        x.constant(15, 0);
-        for (int s = 0; s < 4; s++) {
-            x.symbol(14, s);
-            x.plus(15, 15, 14);
-        }
-        x.constant(r, 1);
-        for (int n = 0; n < 5; n++) {
-            x.times(r, r, 15);
-        }
-    }
-
-    /** Register r becomes a poly of 60 terms; spoils registers 14 and 15. */
-    private static void sixty(PolyDesk x, int r) {
-        fiftySix(x, r);
-        for (int s = 4; s < 8; s++) {
-            x.symbol(14, s);
-            x.plus(r, r, 14);
         }
     }
 
@@ -189,7 +152,7 @@ public final class PromisesTest {
         due("4: MOST - 1 + 1", x.plus(4, 4, 1), 1);
         due("4: that is MOST", x.same(4, 0), 1);
         due("4: MOST + -MOST", x.plus(4, 0, 3), 0);
-        sixty(x, 5);
+        Polys.terms(x, 5, 60);
         due("4: size(5)", x.size(5), 60);
         due("4: the 61st term", x.plus(5, 5, 1), -2);
         due("4: size(5) after it", x.size(5), 60);
@@ -225,7 +188,7 @@ public final class PromisesTest {
         due("5: -MOST - -1", x.minus(9, 6, 8), 1);
         due("5: 0 - MOST", x.minus(9, 10, 5), 1);
         due("5: that is -MOST", x.same(9, 6), 1);
-        sixty(x, 10);
+        Polys.terms(x, 10, 60);
         due("5: the 61st term", x.minus(10, 10, 7), -2);
         due("5: the 61st term, the other way", x.minus(10, 7, 10), -2);
         due("5: size(10)", x.size(10), 60);
@@ -270,12 +233,12 @@ public final class PromisesTest {
 
     private static void timesPutsTogetherFirst() {
         PolyDesk x = new PolyDesk();
-        more(x, 0, 1, 0, 0);
-        more(x, 0, 10000, 0);
-        more(x, 0, 1);
-        more(x, 1, 1, 0, 0);
-        more(x, 1, -10000, 0);
-        more(x, 1, 5);
+        Polys.more(x, 0, 1, 0, 0);
+        Polys.more(x, 0, 10000, 0);
+        Polys.more(x, 0, 1);
+        Polys.more(x, 1, 1, 0, 0);
+        Polys.more(x, 1, -10000, 0);
+        Polys.more(x, 1, 5);
         due("6: -100,000,000 + 6", x.times(2, 0, 1), 4);
         due("6: of aa", x.term(2, 1, -1), -99999994);
         due("6: power of a", x.term(2, 1, 0), 2);
@@ -301,7 +264,7 @@ public final class PromisesTest {
         PolyDesk x = new PolyDesk();
         for (int s = 0; s < 16; s++) {
             x.symbol(0, s);
-            monomial(x, 1, 2, 1, s, s, s, s);
+            Polys.monomial(x, 1, 2, 1, s, s, s, s);
             x.times(3, 1, 0);
             due("6: power 9 of " + s, x.times(4, 1, 3), 1);
             due("6: it is 9", x.term(4, 0, s), 9);
@@ -321,7 +284,7 @@ public final class PromisesTest {
         x.constant(7, MOST);
         due("6: MOST by MOST", x.times(9, 7, 7), -2);
         due("6: register 9 after it", x.term(9, 0, -1), MOST);
-        sixty(x, 10);
+        Polys.terms(x, 10, 60);
         x.constant(11, 2);
         due("6: sixty by 2", x.times(12, 10, 11), 60);
         x.symbol(11, 0);
@@ -338,9 +301,9 @@ public final class PromisesTest {
         x.constant(0, 3);
         x.symbol(1, 2);
         x.constant(5, 0);
-        more(x, 5, 1, 0, 0, 1);
-        more(x, 5, -2, 1);
-        more(x, 5, 7);
+        Polys.more(x, 5, 1, 0, 0, 1);
+        Polys.more(x, 5, -2, 1);
+        Polys.more(x, 5, 7);
         due("7: aab - 2b + 7 with 3 for a, c for b", x.put(6, 5), 2);
         due("7: 9c - 2c", x.term(6, 0, -1), 7);
         due("7: of c", x.term(6, 0, 2), 1);
@@ -372,9 +335,9 @@ public final class PromisesTest {
 
     private static void putInOrder() {
         PolyDesk x = new PolyDesk();
-        more(x, 5, 1, 0);
-        more(x, 5, 1, 1);
-        more(x, 5, 1, 2);
+        Polys.more(x, 5, 1, 0);
+        Polys.more(x, 5, 1, 1);
+        Polys.more(x, 5, 1, 2);
         x.constant(0, 60000000);
         x.constant(1, 60000000);
         x.constant(2, -60000000);
@@ -385,7 +348,7 @@ public final class PromisesTest {
         due("7: in another order it is not", x.put(6, 5), 1);
         due("7: the sum", x.value(6, 0), 60000000);
         x.constant(5, 0);
-        more(x, 5, 3, 0, 1);
+        Polys.more(x, 5, 3, 0, 1);
         x.constant(0, 50000000);
         x.constant(1, 0);
         due("7: the coefficient comes first", x.put(6, 5), -2);
@@ -393,19 +356,19 @@ public final class PromisesTest {
         x.constant(1, 50000000);
         due("7: 0 comes ahead of what would be too big", x.put(6, 5), 0);
         x.constant(5, 0);
-        more(x, 5, 1, 0, 0, 1);
+        Polys.more(x, 5, 1, 0, 0, 1);
         x.constant(0, 10000);
         x.constant(1, 0);
         due("7: symbol 0 comes ahead of symbol 1", x.put(6, 5), -2);
         x.constant(5, 0);
-        more(x, 5, 1, 0, 1, 1);
+        Polys.more(x, 5, 1, 0, 1, 1);
         x.constant(0, 0);
         x.constant(1, 10000);
         due("7: symbol 1 comes behind symbol 0", x.put(6, 5), 0);
         x.constant(5, 0);
-        more(x, 5, 60000000, 2, 3);
-        more(x, 5, -60000000, 4);
-        more(x, 5, 60000000);
+        Polys.more(x, 5, 60000000, 2, 3);
+        Polys.more(x, 5, -60000000, 4);
+        Polys.more(x, 5, 60000000);
         x.constant(2, 1);
         x.constant(3, 1);
         x.constant(4, 1);
@@ -415,27 +378,27 @@ public final class PromisesTest {
 
     private static void putTooBig() {
         PolyDesk x = new PolyDesk();
-        monomial(x, 5, 15, 1, 0, 0, 0, 0, 0);
-        monomial(x, 0, 15, 1, 3, 3);
+        Polys.monomial(x, 5, 15, 1, 0, 0, 0, 0, 0);
+        Polys.monomial(x, 0, 15, 1, 3, 3);
         due("7: power 10", x.put(5, 5), -2);
         due("7: register 5 after it", x.term(5, 0, 0), 5);
-        monomial(x, 5, 15, 1, 0, 0, 0, 0);
+        Polys.monomial(x, 5, 15, 1, 0, 0, 0, 0);
         due("7: power 8", x.put(5, 5), 1);
         due("7: it is 8", x.term(5, 0, 3), 8);
         x.constant(0, 0);
-        more(x, 0, 1, 0);
-        more(x, 0, 1, 1);
-        more(x, 0, 1, 2);
-        more(x, 0, 1, 3);
-        monomial(x, 5, 15, 1, 0, 0, 0, 0, 0);
+        Polys.more(x, 0, 1, 0);
+        Polys.more(x, 0, 1, 1);
+        Polys.more(x, 0, 1, 2);
+        Polys.more(x, 0, 1, 3);
+        Polys.monomial(x, 5, 15, 1, 0, 0, 0, 0, 0);
         due("7: 56 terms", x.put(6, 5), 56);
-        monomial(x, 5, 15, 1, 0, 0, 0, 0, 0, 0);
+        Polys.monomial(x, 5, 15, 1, 0, 0, 0, 0, 0, 0);
         due("7: 84 terms", x.put(6, 5), -2);
         due("7: size(6)", x.size(6), 56);
-        monomial(x, 5, 15, 1, 0, 0, 0, 0, 0);
-        more(x, 5, 1, 0);
+        Polys.monomial(x, 5, 15, 1, 0, 0, 0, 0, 0);
+        Polys.more(x, 5, 1, 0);
         due("7: 56 terms and 4", x.put(6, 5), 60);
-        more(x, 5, 1);
+        Polys.more(x, 5, 1);
         due("7: 56 terms and 4 and 1", x.put(6, 5), -2);
     }
 
@@ -447,7 +410,7 @@ public final class PromisesTest {
         for (int r = 0; r < 16; r++) {
             due("8: size(" + r + ")", x.size(r), r == 0 ? 0 : 1);
         }
-        sixty(x, 3);
+        Polys.terms(x, 3, 60);
         due("8: size(3)", x.size(3), 60);
         for (int n : NO_REGISTER) {
             due("8: size(" + n + ")", x.size(n), -1);
@@ -456,8 +419,8 @@ public final class PromisesTest {
 
     private static void term() {
         PolyDesk x = new PolyDesk();
-        more(x, 0, -4, 2, 2, 2, 9);
-        more(x, 0, 6, 15);
+        Polys.more(x, 0, -4, 2, 2, 2, 9);
+        Polys.more(x, 0, 6, 15);
         due("9: term(0, 0, -1)", x.term(0, 0, -1), -4);
         due("9: term(0, 0, 2)", x.term(0, 0, 2), 3);
         due("9: term(0, 0, 9)", x.term(0, 0, 9), 1);
@@ -481,18 +444,18 @@ public final class PromisesTest {
 
     private static void order() {
         PolyDesk x = new PolyDesk();
-        more(x, 0, 1);
-        more(x, 0, 2, 15);
-        more(x, 0, 3, 0);
-        more(x, 0, 4, 15, 15);
-        more(x, 0, 5, 0, 15);
-        more(x, 0, 6, 0, 0);
-        more(x, 0, 7, 1, 1);
-        more(x, 0, 8, 0, 1);
-        more(x, 0, 9, 14, 15, 15);
-        more(x, 0, 10, 14, 14, 15);
-        more(x, 0, 11, 0, 0, 0, 0, 0, 0, 0, 0, 0);
-        more(x, 0, 12, 15, 15, 15, 15, 15, 15, 15, 15, 15, 14);
+        Polys.more(x, 0, 1);
+        Polys.more(x, 0, 2, 15);
+        Polys.more(x, 0, 3, 0);
+        Polys.more(x, 0, 4, 15, 15);
+        Polys.more(x, 0, 5, 0, 15);
+        Polys.more(x, 0, 6, 0, 0);
+        Polys.more(x, 0, 7, 1, 1);
+        Polys.more(x, 0, 8, 0, 1);
+        Polys.more(x, 0, 9, 14, 15, 15);
+        Polys.more(x, 0, 10, 14, 14, 15);
+        Polys.more(x, 0, 11, 0, 0, 0, 0, 0, 0, 0, 0, 0);
+        Polys.more(x, 0, 12, 15, 15, 15, 15, 15, 15, 15, 15, 15, 14);
         int[] want = {12, 11, 10, 9, 6, 8, 5, 7, 4, 3, 2, 1};
         for (int k = 0; k < want.length; k++) {
             due("9: term(0, " + k + ", -1) in ORDER", x.term(0, k, -1), want[k]);
@@ -538,10 +501,10 @@ public final class PromisesTest {
 
     private static void value() {
         PolyDesk x = new PolyDesk();
-        more(x, 0, 2, 0, 0, 3);
-        more(x, 0, -5, 1, 2, 4);
-        more(x, 0, 4, 0);
-        more(x, 0, 11);
+        Polys.more(x, 0, 2, 0, 0, 3);
+        Polys.more(x, 0, -5, 1, 2, 4);
+        Polys.more(x, 0, 4, 0);
+        Polys.more(x, 0, 11);
         int[] all = {0, 1, -1, 2, -2, 10, 1000, Integer.MAX_VALUE, Integer.MIN_VALUE};
         for (int n : all) {
             long m = n;
@@ -659,7 +622,7 @@ public final class PromisesTest {
             x.symbol(1, s);
             x.hypothesis(1);
         }
-        monomial(x, 2, 3, 5, 0, 1, 2, 3);
+        Polys.monomial(x, 2, 3, 5, 0, 1, 2, 3);
         due("15: four of them", x.part(5, 3, 0, 2, 1), 1);
         due("15: show(2, 1)", x.show(2, 1), 1);
         due("15: count(1)", x.count(1), 0);
@@ -676,7 +639,7 @@ public final class PromisesTest {
         x.part(2, 0, 1, 2, 3);
         x.part(8, 3, 2, 1, 0);
         due("15: with k 3", x.show(2, 3), 0);
-        monomial(x, 2, 3, 5, 0, 3);
+        Polys.monomial(x, 2, 3, 5, 0, 3);
         x.part(5, -1, 0, -1, 3);
         x.part(0, 0, 0, 0, 0);
         due("15: NONE between", x.show(2, 1), 1);
@@ -752,7 +715,7 @@ public final class PromisesTest {
         x.part(1, 1, -1, -1, -1);
         x.part(1, 0, -1, -1, -1);
         due("15: in another order", x.show(0, 1), 1);
-        sixty(x, 3);
+        Polys.terms(x, 3, 60);
         x.keep(0);
         x.hypothesis(3);
         x.constant(4, 1);
@@ -761,7 +724,7 @@ public final class PromisesTest {
         x.part(1, 0, -1, -1, -1);
         x.part(1, -1, -1, -1, -1);
         due("15: sixty-one terms", x.show(3, 1), -2);
-        monomial(x, 5, 6, 1, 0, 0, 0, 0, 0);
+        Polys.monomial(x, 5, 6, 1, 0, 0, 0, 0, 0);
         x.hypothesis(5);
         x.part(1, 1, 1, -1, -1);
         due("15: power 10", x.show(3, 1), -2);
