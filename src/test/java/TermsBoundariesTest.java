@@ -39,6 +39,7 @@ public final class TermsBoundariesTest {
         Checks.sentence("Registers are 0 .. 15, 0 at first", TermsBoundariesTest::registers);
         Checks.sentence("NONE, changing nothing: no such register", TermsBoundariesTest::noRegister);
         Checks.sentence("NONE, changing nothing: no such SYMBOL", TermsBoundariesTest::noSymbol);
+        Checks.sentence("NONE, changing nothing: no such HYPOTHESIS", TermsBoundariesTest::noHypothesis);
         Checks.sentence("NONE, changing nothing: no such number", TermsBoundariesTest::noNumber);
         Checks.sentence("-2, changing nothing", TermsBoundariesTest::tooBig);
         Checks.finish();
@@ -647,6 +648,20 @@ public final class TermsBoundariesTest {
         }
         scene.changes("symbol(1, 0)", x -> x.symbol(1, 0), 1, "register 1");
         scene.changes("symbol(1, 15)", x -> x.symbol(1, 15), 1, "register 1");
+    }
+
+    private static void noHypothesis() {
+        Scene scene = Scene.furnished();
+        int[] beyond = {-2, -3, Integer.MIN_VALUE};
+        for (int h : beyond) {
+            scene.refuses("part(1, " + h + ", 0, 1, 2)", x -> x.part(1, h, 0, 1, 2), -1);
+            scene.refuses("part(1, 0, " + h + ", 1, 2)", x -> x.part(1, 0, h, 1, 2), -1);
+            scene.refuses("part(1, 0, 1, " + h + ", 2)", x -> x.part(1, 0, 1, h, 2), -1);
+            scene.refuses("part(1, 0, 1, 2, " + h + ")", x -> x.part(1, 0, 1, 2, h), -1);
+        }
+        scene.refuses("keep(4) of 3", x -> x.keep(4), -1);
+        scene.refuses("keep(3) of 3", x -> x.keep(3), 3);
+        scene.refuses("keep(-1)", x -> x.keep(-1), -1);
     }
 
     private static void noNumber() {
