@@ -19,6 +19,9 @@ public final class LanguageTest {
         "int term(int, int, int)", "int same(int, int)", "long value(int, int)", "int hypothesis(int)",
         "int keep(int)", "int part(int, int, int, int, int)", "int show(int, int)", "int count(int)"};
 
+    private static final Set<Class<?>> CONSTANTS = Set.of(int.class, long.class, boolean.class, char.class,
+            String.class, int[].class, long[].class, char[].class, byte[].class);
+
     private static int wrong = 0;
 
     private static void hold(boolean holds, String what) {
@@ -66,8 +69,6 @@ public final class LanguageTest {
             boolean constant = field.getName().equals("NONE") || field.getName().equals("TOO_BIG");
             hold(constant ? Modifier.isPublic(field.getModifiers()) : Modifier.isPrivate(field.getModifiers()),
                     "public constants and private fields: " + field);
-            hold(!Modifier.isStatic(field.getModifiers()) || Modifier.isFinal(field.getModifiers()),
-                    "static fields are final: " + field);
         }
         hold(PolyDesk.NONE == -1 && PolyDesk.TOO_BIG == -2, "the constants");
     }
@@ -79,8 +80,33 @@ public final class LanguageTest {
             hold(Modifier.isStatic(one.getModifiers()), "static: " + one);
             hold(!Modifier.isPublic(one.getModifiers()) && !Modifier.isProtected(one.getModifiers()),
                     "private or package-visible: " + one);
-            for (Method method : one.getDeclaredMethods()) {
-                hold(method.getParameterCount() <= 7, "at most seven parameters: " + method);
+            sizes(one);
+        }
+        sizes(PolyDesk.class);
+    }
+
+    private static void sizes(Class<?> one) {
+        for (Method method : one.getDeclaredMethods()) {
+            hold(method.getParameterCount() <= 7, "at most seven parameters: " + method);
+        }
+        long fields = Arrays.stream(one.getDeclaredFields()).filter(f -> !Modifier.isStatic(f.getModifiers())).count();
+        hold(fields <= 20, "some twenty fields: " + one);
+        for (Field field : one.getDeclaredFields()) {
+            boolean constant = Modifier.isFinal(field.getModifiers()) && CONSTANTS.contains(field.getType());
+            hold(!Modifier.isStatic(field.getModifiers()) || constant, "a static field is a constant: " + field);
+        }
+    }
+
+    /** A member begins and ends four or eight spaces in, by the way this file is written. */
+    private static void methodsStayShort(String source) {
+        String[] lines = source.split("\n");
+        int begun = 0;
+        for (int n = 0; n < lines.length; n++) {
+            if (lines[n].matches(" {4}(?: {4})?(public|private) .*\\) \\{")) {
+                begun = n;
+            }
+            if (lines[n].matches(" {4}(?: {4})?\\}")) {
+                hold(n - begun <= 60, "methods stay short: " + lines[begun].trim());
             }
         }
     }
@@ -95,6 +121,7 @@ public final class LanguageTest {
             String whole = word.matches("[a-zA-Z]+") ? "\\b" + word + "\\b" : word;
             hold(!Pattern.compile(whole).matcher(code).find(), "the source does without: " + word);
         }
+        methodsStayShort(source);
         hold(source.chars().allMatch(c -> c < 128), "plain characters");
     }
 }
