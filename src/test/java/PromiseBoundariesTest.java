@@ -259,33 +259,44 @@ public final class PromiseBoundariesTest {
         Scene.furnished().changes("onto register 5 alone", y -> y.put(5, 5), 2, "register 5");
     }
 
-    /** Puts numbers for the symbols of a sum of symbols. */
-    private static int putNumbers(int... numbers) {
-        PolyDesk x = new PolyDesk();
-        for (int s = 0; s < numbers.length; s++) {
-            x.symbol(14, s);
-            x.plus(15, 15, 14);
-        }
-        for (int s = 0; s < numbers.length; s++) {
-            x.constant(s, numbers[s]);
-        }
-        int answer = x.put(13, 15);
+    /** The put leads to so many terms in register r and changes nothing else; or it is refused. */
+    private static void putChanges(Scene scene, String name, int r, int x, int answer) {
         if (answer < 0) {
-            Checks.due("register 13 stays", x.size(13), 0);
+            scene.refuses(name, y -> y.put(r, x), answer);
         } else {
-            Checks.due("the sum", x.value(13, 1), Arrays.stream(numbers).sum());
+            scene.changes(name, y -> y.put(r, x), answer, "register " + r);
         }
-        return answer;
+    }
+
+    /** Puts numbers for the symbols of a sum of symbols. */
+    private static void putNumbers(String name, int answer, int... numbers) {
+        Scene scene = Scene.furnished().with(x -> {
+            x.constant(15, 0);
+            for (int s = 0; s < numbers.length; s++) {
+                x.symbol(14, s);
+                x.plus(15, 15, 14);
+            }
+            for (int s = 0; s < numbers.length; s++) {
+                x.constant(s, numbers[s]);
+            }
+        });
+        putChanges(scene, name, 13, 15, answer);
+        if (answer >= 0) {
+            PolyDesk x = scene.desk();
+            x.put(13, 15);
+            Checks.due(name + ": the sum", x.value(13, 1), Arrays.stream(numbers).sum());
+        }
     }
 
     private static void putSums() {
-        Checks.due("a sum on the way is MOST", putNumbers(MOST - 1, 1, -5), 1);
-        Checks.due("a sum on the way is MOST + 1", putNumbers(MOST - 1, 2, -5), -2);
-        Checks.due("a sum on the way is -MOST", putNumbers(1 - MOST, -1, 5), 1);
-        Checks.due("a sum on the way is -MOST - 1", putNumbers(1 - MOST, -2, 5), -2);
-        Checks.due("less ahead of more", putNumbers(MOST - 1, -5, 2), 1);
-        Checks.due("the last sum is MOST + 1", putNumbers(MOST - 1, -5, 7), -2);
-        Checks.due("the last sum is 0", putNumbers(MOST, -MOST), 0);
+        putNumbers("a sum on the way is MOST", 1, MOST - 1, 1, -5);
+        putNumbers("a sum on the way is MOST + 1", -2, MOST - 1, 2, -5);
+        putNumbers("a sum on the way is -MOST", 1, 1 - MOST, -1, 5);
+        putNumbers("a sum on the way is -MOST - 1", -2, 1 - MOST, -2, 5);
+        putNumbers("less ahead of more", 1, MOST - 1, -5, 2);
+        putNumbers("the last sum is MOST", 1, MOST - 1, -5, 6);
+        putNumbers("the last sum is MOST + 1", -2, MOST - 1, -5, 7);
+        putNumbers("the last sum is 0", 0, MOST, -MOST);
         for (int over = 0; over <= 1; over++) {
             int more = over;
             Scene scene = Scene.furnished().with(x -> {
@@ -308,44 +319,43 @@ public final class PromiseBoundariesTest {
     }
 
     private static void greaterSumsFirst() {
-        PolyDesk x = new PolyDesk();
-        Polys.more(x, 5, 60000000);
-        Polys.more(x, 5, -60000000, 4);
-        Polys.more(x, 5, 60000000, 2, 3);
-        x.constant(2, 1);
-        x.constant(3, 1);
-        x.constant(4, 1);
-        Checks.due("60,000,000, then none, then 60,000,000", x.put(6, 5), 1);
-        x.constant(4, -1);
-        Checks.due("60,000,000, then 120,000,000, then more", x.put(6, 5), -2);
-        isPoly("register 6 stays", x, 6, 60000000);
+        for (int sign = -1; sign <= 1; sign += 2) {
+            int v = sign;
+            Scene scene = Scene.furnished().with(x -> {
+                x.constant(5, 60000000);
+                Polys.more(x, 5, -60000000, 4);
+                Polys.more(x, 5, 60000000, 2, 3);
+                x.constant(2, 1);
+                x.constant(3, 1);
+                x.constant(4, v);
+            });
+            putChanges(scene, "60,000,000, then " + v + " times less, then more", 6, 5, v < 0 ? -2 : 1);
+        }
     }
 
-    private static int putProduct(int coefficient, int first, int second, int... symbols) {
-        PolyDesk x = new PolyDesk();
-        Polys.monomial(x, 2, 3, coefficient, symbols);
-        x.constant(3, 6);
-        x.constant(0, first);
-        x.constant(1, second);
-        int answer = x.put(3, 2);
-        if (answer == -2) {
-            isPoly("register 3 stays", x, 3, 6);
-        }
-        return answer;
+    /** Puts numbers for symbols 0 and 1 of one term, onto register 3. */
+    private static void putProduct(String name, int answer, int[] numbers, int... symbols) {
+        Scene scene = Scene.furnished().with(x -> {
+            Polys.monomial(x, 2, 3, numbers[0], symbols);
+            x.symbol(3, 8);
+            x.constant(0, numbers[1]);
+            x.constant(1, numbers[2]);
+        });
+        putChanges(scene, name, 3, 2, answer);
     }
 
     private static void putProducts() {
-        Checks.due("MOST on the way, then 0", putProduct(9999, 10001, 0, 0, 1), 0);
-        Checks.due("MOST + 1 on the way, then 0", putProduct(10000, 10000, 0, 0, 1), -2);
-        Checks.due("-MOST on the way, then 0", putProduct(-9999, 10001, 0, 0, 1), 0);
-        Checks.due("-MOST - 1 on the way, then 0", putProduct(-10000, 10000, 0, 0, 1), -2);
-        Checks.due("0, then what would be MOST + 1", putProduct(10000, 0, 10000, 0, 1), 0);
-        Checks.due("symbol 0 twice, then symbol 1", putProduct(1, 10000, 0, 0, 0, 1), -2);
-        Checks.due("symbol 0, then symbol 1 twice", putProduct(1, 0, 10000, 0, 1, 1), 0);
-        Checks.due("MOST by 1 by 1", putProduct(MOST, 1, 1, 0, 1), 1);
-        Checks.due("MOST by -1 by -1", putProduct(MOST, -1, -1, 0, 1), 1);
-        Checks.due("MOST by 2", putProduct(MOST, 2, 1, 0), -2);
-        Checks.due("MOST alone", putProduct(MOST, 2, 2), 1);
+        putProduct("MOST on the way, then 0", 0, new int[] {9999, 10001, 0}, 0, 1);
+        putProduct("MOST + 1 on the way, then 0", -2, new int[] {10000, 10000, 0}, 0, 1);
+        putProduct("-MOST on the way, then 0", 0, new int[] {-9999, 10001, 0}, 0, 1);
+        putProduct("-MOST - 1 on the way, then 0", -2, new int[] {-10000, 10000, 0}, 0, 1);
+        putProduct("0, then what would be MOST + 1", 0, new int[] {10000, 0, 10000}, 0, 1);
+        putProduct("symbol 0 twice, then symbol 1", -2, new int[] {1, 10000, 0}, 0, 0, 1);
+        putProduct("symbol 0, then symbol 1 twice", 0, new int[] {1, 0, 10000}, 0, 1, 1);
+        putProduct("MOST by 1 by 1", 1, new int[] {MOST, 1, 1}, 0, 1);
+        putProduct("MOST by -1 by -1", 1, new int[] {MOST, -1, -1}, 0, 1);
+        putProduct("MOST by 2", -2, new int[] {MOST, 2, 1}, 0);
+        putProduct("MOST alone", 1, new int[] {MOST, 2, 2});
     }
 
     private static void putPowers() {
@@ -364,9 +374,9 @@ public final class PromiseBoundariesTest {
         x.constant(0, 99);
         Checks.due("99 for aaaa", x.put(3, 1), 1);
         isPoly("96,059,601", x, 3, 96059601);
-        x.constant(0, 100);
-        Checks.due("100 for aaaa", x.put(3, 1), -2);
-        isPoly("register 3 stays", x, 3, 96059601);
+        Scene scene = Scene.furnished().with(y -> Polys.power(y, 1, 2, 0, 4));
+        putChanges(scene.with(y -> y.constant(0, 99)), "99 for aaaa", 3, 1, 1);
+        putChanges(scene.with(y -> y.constant(0, 100)), "100 for aaaa", 3, 1, -2);
     }
 
     private static void size() {
@@ -835,59 +845,69 @@ public final class PromiseBoundariesTest {
         Checks.due("it is there: too big", x.show(1, 1), -2);
     }
 
-    private static int showTimes(int number, int k) {
-        PolyDesk x = new PolyDesk();
-        Polys.more(x, 0, number, 4, 4);
-        Polys.more(x, 0, 1);
-        int answer = x.show(0, k);
-        Checks.due("the register stays", x.term(0, 0, -1), number);
-        return answer;
+    /** The show has this answer, takes the TERMS away and changes nothing else. */
+    private static void showChanges(Scene scene, String name, int x, int k, int answer) {
+        scene.changes(name, y -> y.show(x, k), answer, "count(1)", "TERMS");
+    }
+
+    private static void showTimes(String name, int answer, int number, int k) {
+        Scene scene = Scene.furnished().with(x -> {
+            x.constant(0, 1);
+            Polys.more(x, 0, number, 4, 4);
+        });
+        showChanges(scene, name, 0, k, answer);
     }
 
     private static void showRegisterTooBig() {
-        Checks.due("MOST - 1", showTimes(49999999, 2), 0);
-        Checks.due("MOST", showTimes(9999, 10001), 0);
-        Checks.due("MOST + 1", showTimes(10000, 10000), -2);
-        Checks.due("-MOST", showTimes(-9999, 10001), 0);
-        Checks.due("-MOST - 1", showTimes(-10000, 10000), -2);
-        Checks.due("MOST times MOST", showTimes(MOST, MOST), -2);
-        Checks.due("MOST times 1", showTimes(MOST, 1), 0);
-        Checks.due("1 times MOST", showTimes(1, MOST), 0);
-        PolyDesk x = new PolyDesk();
-        Polys.terms(x, 0, 60);
-        Checks.due("60 terms by MOST", x.show(0, MOST), -2);
-        Polys.allNines(x, 0, 1);
-        Checks.due("every power 9", x.show(0, MOST), 0);
+        showTimes("MOST - 1", 0, 49999999, 2);
+        showTimes("MOST", 0, 9999, 10001);
+        showTimes("MOST + 1", -2, 10000, 10000);
+        showTimes("-MOST", 0, -9999, 10001);
+        showTimes("-MOST - 1", -2, -10000, 10000);
+        showTimes("MOST times MOST", -2, MOST, MOST);
+        showTimes("MOST times 1", 0, MOST, 1);
+        showTimes("1 times MOST", 0, 1, MOST);
+        Scene sixty = Scene.furnished().with(x -> Polys.terms(x, 0, 60));
+        showChanges(sixty, "60 terms, one of them 60, by 1666666", 0, 1666666, 0);
+        showChanges(sixty, "60 terms, one of them 60, by 1666667", 0, 1666667, -2);
+        Scene nines = Scene.furnished().with(x -> Polys.allNines(x, 0, 1));
+        showChanges(nines, "every power 9", 0, MOST, 0);
     }
 
     /** Shows 0 by TERMS, each a number and perhaps a HYPOTHESIS: 10001, 10000, -1, 49999999. */
-    private static int showParts(int... numbersAndHypotheses) {
-        PolyDesk x = new PolyDesk();
-        for (int v : new int[] {10001, 10000, -1, 49999999}) {
-            x.constant(0, v);
-            x.hypothesis(0);
+    private static void showParts(String name, int answer, int... numbersAndHypotheses) {
+        Scene scene = Scene.furnished().with(x -> {
+            x.show(0, 1);
+            for (int v : new int[] {10001, 10000, -1, 49999999}) {
+                x.constant(0, v);
+                x.hypothesis(0);
+            }
+            x.constant(0, 0);
+            for (int n = 0; n < numbersAndHypotheses.length; n += 2) {
+                int h = numbersAndHypotheses[n + 1];
+                x.part(numbersAndHypotheses[n], h < 0 ? -1 : h + 3, -1, -1, -1);
+            }
+        });
+        if (answer == 1) {
+            // TERMS whose sum is 0 show what no TERMS show.
+            scene.changes(name, x -> x.show(0, 1), 1, "count(1)");
+        } else {
+            showChanges(scene, name, 0, 1, answer);
         }
-        for (int n = 0; n < numbersAndHypotheses.length; n += 2) {
-            x.part(numbersAndHypotheses[n], numbersAndHypotheses[n + 1], -1, -1, -1);
-        }
-        int answer = x.show(1, 1);
-        Checks.due("TERMS are none", x.count(1), 0);
-        Checks.due("HYPOTHESES stay", x.count(0), 4);
-        return answer;
     }
 
     private static void showCoefficients() {
-        Checks.due("a TERM of MOST - 1", showParts(2, 3), 0);
-        Checks.due("a TERM of MOST", showParts(9999, 0), 0);
-        Checks.due("a TERM of MOST + 1", showParts(10000, 1), -2);
-        Checks.due("a sum of MOST", showParts(MOST - 1, -1, 1, -1), 0);
-        Checks.due("a sum of MOST + 1", showParts(MOST - 1, -1, 2, -1), -2);
-        Checks.due("a sum of -MOST", showParts(MOST - 1, 2, 1, 2), 0);
-        Checks.due("a sum of -MOST - 1", showParts(MOST - 1, 2, 2, 2), -2);
-        Checks.due("MOST, then less", showParts(MOST, -1, MOST, 2), 1);
-        Checks.due("-MOST, then more", showParts(MOST, 2, MOST, -1), 1);
-        Checks.due("MOST + 1, then less", showParts(MOST, -1, 1, -1, MOST, 2, 1, 2), -2);
-        Checks.due("MOST, less, more, less", showParts(MOST, -1, 1, 2, 1, -1, MOST, 2), 1);
+        showParts("a TERM of MOST - 1", 0, 2, 3);
+        showParts("a TERM of MOST", 0, 9999, 0);
+        showParts("a TERM of MOST + 1", -2, 10000, 1);
+        showParts("a sum of MOST", 0, MOST - 1, -1, 1, -1);
+        showParts("a sum of MOST + 1", -2, MOST - 1, -1, 2, -1);
+        showParts("a sum of -MOST", 0, MOST - 1, 2, 1, 2);
+        showParts("a sum of -MOST - 1", -2, MOST - 1, 2, 2, 2);
+        showParts("MOST, then less", 1, MOST, -1, MOST, 2);
+        showParts("-MOST, then more", 1, MOST, 2, MOST, -1);
+        showParts("MOST + 1, then less", -2, MOST, -1, 1, -1, MOST, 2, 1, 2);
+        showParts("MOST, less, more, less", 1, MOST, -1, 1, 2, 1, -1, MOST, 2);
     }
 
     private static void showTerms() {
@@ -977,8 +997,8 @@ public final class PromiseBoundariesTest {
             x.part(100000, n[0], n[1], n[2], n[3]);
             Checks.due("100,000 and 1000 each, 0 at " + zeroAt, x.show(1, 1), zeroAt > 0 ? -2 : 1);
         }
-        Checks.due("the second TERM is too big", showParts(0, -1, 10000, 1), -2);
-        Checks.due("the first TERM is too big", showParts(10000, 1, 0, -1), -2);
+        showParts("the second TERM is too big", -2, 0, -1, 10000, 1);
+        showParts("the first TERM is too big", -2, 10000, 1, 0, -1);
     }
 
     private static void count() {
